@@ -275,33 +275,33 @@ public final class AlarmMatrix {
     private void putSentence(int which, int a, int b, int c, int d) {
         switch (which) {
             case SAY_ZONE:
-                text.putPair("zone ", a);
-                text.putPair("needs ", b);
-                text.putPair("of ", c);
-                for (int k = 1; k < d; k++) {
-                    text.putPair("", c + k);
+                text.putPair("zone", a);
+                text.putPair("needs", b);
+                text.putWord("of");
+                for (int k = 0; k < d; k++) {
+                    text.putNumber(c + k);
                 }
                 break;
             case SAY_ACT:
-                text.putPair("act ", a);
-                text.putPair("kind ", b);
-                text.putPair("rank ", c);
-                text.putPair("delay ", d);
+                text.putPair("act", a);
+                text.putPair("kind", b);
+                text.putPair("rank", c);
+                text.putPair("delay", d);
                 break;
             case SAY_ROW:
-                text.putPair("when ", a);
-                text.putPair("does ", b);
+                text.putPair("when", a);
+                text.putPair("does", b);
                 break;
             case SAY_ROW_OF_TWO:
-                text.putPair("when ", a);
-                text.putPair("& ", b);
-                text.putPair("does ", c);
+                text.putPair("when", a);
+                text.putPair("&", b);
+                text.putPair("does", c);
                 break;
             default:
-                text.putPair("hold ", a);
+                text.putPair("hold", a);
                 break;
         }
-        text.putAll("; ");
+        text.putWord(";");
     }
 
     /** The characters of the text. */
@@ -332,19 +332,19 @@ public final class AlarmMatrix {
             length++;
         }
 
-        void putAll(String word) {
+        void putPair(String word, int number) {
+            putWord(word);
+            putNumber(number);
+        }
+
+        void putWord(String word) {
             for (int k = 0; k < word.length(); k++) {
                 put(word.charAt(k));
             }
-        }
-
-        void putPair(String word, int number) {
-            putAll(word);
-            putNumber(number);
             put(' ');
         }
 
-        private void putNumber(int number) {
+        void putNumber(int number) {
             int rest = number;
             int first = MOST_DIGITS;
             do {
@@ -355,6 +355,7 @@ public final class AlarmMatrix {
             for (int k = first; k < MOST_DIGITS; k++) {
                 put(digits[k]);
             }
+            put(' ');
         }
     }
 
@@ -580,12 +581,14 @@ public final class AlarmMatrix {
         }
 
         private int stepToToldZone() {
-            int zone = words.stepToValue(0, ZONES - 1);
+            words.step();
+            int zone = words.valueWithin(0, ZONES - 1);
             return plan.zones().isTold(zone) ? zone : NONE;
         }
 
         private int stepToToldAct() {
-            int act = words.stepToValue(0, ACTS - 1);
+            words.step();
+            int act = words.valueWithin(0, ACTS - 1);
             return plan.acts().isTold(act) ? act : NONE;
         }
     }
