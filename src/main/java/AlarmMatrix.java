@@ -135,9 +135,9 @@ public final class AlarmMatrix {
         if (points.isInLoop(point) || loops[loop].isFull()) {
             throw new IllegalStateException("the point is in a loop, or the loop is full");
         }
+        // A new point stands behind every cut of its loop, so it is heard, and nothing changes for the others.
         loops[loop].add(point);
         points.putInLoop(point);
-        points.hearThrough(loops[loop]);
         return loops[loop].size();
     }
 

@@ -287,6 +287,9 @@ final class ReadTest {
         Check.due("waits no more", AlarmMatrix.NONE, () -> x.act(1, 1));
         Check.badArgument("no event of that", () -> x.event(1, 0));
         Check.due("nobody waits", 0, () -> x.person(1));
+        Check.due("read once more", 2, () -> x.read());
+        Check.due("rests still", 0, () -> x.act(0, 0));
+        Check.due("rests still, too", 0, () -> x.act(1, 0));
         Check.due("done anew", 1, () -> x.ticks(1));
         Check.due("waits anew", 4, () -> x.act(1, 1));
         Check.due("may be looked at again", 1, () -> x.person(0));

@@ -6,6 +6,7 @@ final class TextTest {
         sayRefusesNumbers();
         fullText();
         cutTextTakesTheEnd();
+        whatWasCutIsNotRead();
         Check.end();
     }
 
@@ -137,6 +138,18 @@ final class TextTest {
         Check.due("all go", 0, () -> x.cutText(1992));
         Check.due("written anew", 9, () -> x.say(4, 0, 0, 0, 0));
         Check.due("read anew", -2, () -> x.read());
+    }
+
+    private static void whatWasCutIsNotRead() {
+        AlarmMatrix x = new AlarmMatrix(9);
+        Check.type(x, "zone 199");
+        Check.due("a number out of its bounds", -2, () -> x.read());
+        x.cutText(1);
+        Check.due("a shorter number", -3, () -> x.read());
+        Check.type(x, " needs 1 of 0;");
+        Check.due("a sentence", 0, () -> x.read());
+        x.cutText(1);
+        Check.due("its end is gone", -7, () -> x.read());
     }
 
     private static void cutTextTakesTheEnd() {

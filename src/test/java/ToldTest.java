@@ -180,5 +180,7 @@ final class ToldTest {
             }
         }
         Check.due("no more", AlarmMatrix.NONE, () -> x.ranked(20));
+        Check.due("none is called", 0, () -> x.ticks(1));
+        Check.due("none latches", 0, () -> x.reset());
     }
 }
