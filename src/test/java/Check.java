@@ -1,9 +1,11 @@
-/** Counts what is not as due; each test's main ends with end(). */
+/** Counts what is not as due, and tells it with the sentence of the document that is broken by it. */
 final class Check {
     static final String ARGUMENT = "IllegalArgumentException";
     static final String STATE = "IllegalStateException";
 
     private static int wrong = 0;
+    private static int sentences = 0;
+    private static String sentence = "";
 
     interface Call {
         long answer();
@@ -14,6 +16,18 @@ final class Check {
     }
 
     private Check() {
+    }
+
+    /** Runs the test of one sentence of a promise. */
+    static void sentence(String promise, String words, Runnable test) {
+        sentences++;
+        sentence = promise + " (" + words + "): ";
+        try {
+            test.run();
+        } catch (RuntimeException e) {
+            same("a call of the test", e.toString(), "no exception");
+        }
+        sentence = "";
     }
 
     /** What a call answers, or the simple name of what it throws. */
@@ -28,12 +42,16 @@ final class Check {
     static void same(String what, String got, String want) {
         if (!got.equals(want)) {
             wrong++;
-            System.out.println(what + ": " + got + ", due is " + want);
+            System.out.println(sentence + what + ": " + got + ", due is " + want);
         }
     }
 
     static void due(String what, long want, Call call) {
         same(what, outcome(call), Long.toString(want));
+    }
+
+    static void none(String what, Call call) {
+        due(what, AlarmMatrix.NONE, call);
     }
 
     static void yes(String what, YesOrNo call) {
@@ -52,24 +70,8 @@ final class Check {
         same(what, outcome(call), STATE);
     }
 
-    /** Writes a text character by character: one call each of the 512 that an object is good for. */
-    static void type(AlarmMatrix x, String text) {
-        for (int k = 0; k < text.length(); k++) {
-            x.unit(text.charAt(k));
-        }
-    }
-
-    static AlarmMatrix readNew(int points, String text) {
-        AlarmMatrix x = new AlarmMatrix(points);
-        type(x, text);
-        if (x.read() < 0) {
-            throw new IllegalStateException("a test's own text is wrong: " + text);
-        }
-        return x;
-    }
-
     static void end() {
-        System.out.println(wrong == 0 ? "all as due" : wrong + " not as due");
+        System.out.println("sentences: " + sentences + ", answers that are not as due: " + wrong);
         if (wrong != 0) {
             System.exit(1);
         }

@@ -28,12 +28,16 @@ final class ModelTest {
     }
 
     public static void main(String[] args) {
+        Check.sentence("Promises 1 to 21", "all of them together, beside a model", ModelTest::runBesideTheModel);
+        Check.end();
+    }
+
+    private static void runBesideTheModel() {
         Map<String, Integer> outcomes = new HashMap<>();
         for (int run = 0; run < RUNS; run++) {
             new ModelTest(run, outcomes).go();
         }
         everyCallAnsweredAndThrew(outcomes);
-        Check.end();
     }
 
     /** Runs that only ever throw, or never do, would show nothing. */
