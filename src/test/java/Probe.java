@@ -1,5 +1,6 @@
 import java.util.ArrayList;
 import java.util.List;
+import java.util.function.Supplier;
 
 /** Finds out all that an object holds, by calls that may change it; the object is of no use behind that. */
 final class Probe {
@@ -32,14 +33,20 @@ final class Probe {
     }
 
     /**
-     * Asks last what a scout, an object like those that will be asked, refuses: if a refused call changed something,
-     * asking it early would change both of the objects that are to be told apart.
+     * Asks last what objects like those that will be asked refuse: if a refused call changed something, asking it early
+     * would change both of the objects that are to be told apart. For the same reason a new scout comes behind each.
      */
-    static Probe refusedLast(AlarmMatrix scout) {
+    static Probe refusedLast(Supplier<AlarmMatrix> make) {
         Probe probe = new Probe();
         List<Question> refused = new ArrayList<>();
+        AlarmMatrix scout = make.get();
         for (Question question : inOrder().questions) {
-            (question.outcome(scout).startsWith("Illegal") ? refused : probe.questions).add(question);
+            if (question.outcome(scout).startsWith("Illegal")) {
+                refused.add(question);
+                scout = make.get();
+            } else {
+                probe.questions.add(question);
+            }
         }
         probe.questions.addAll(refused);
         return probe;

@@ -38,7 +38,7 @@ final class Refused {
 
     private static void refused(String exception, String what, Supplier<AlarmMatrix> make, Deed deed) {
         comparedBy(Probe.inOrder(), exception, what, make, deed);
-        comparedBy(Probe.refusedLast(make.get()), exception, what, make, deed);
+        comparedBy(Probe.refusedLast(make), exception, what, make, deed);
     }
 
     private static void comparedBy(

@@ -30,7 +30,8 @@ final class TextTest {
         Check.sentence("Promise 4", "n is 0, or as many as there are", TextTest::cutTextNoneAndAll);
         Check.sentence("Promise 4", "illegal argument: n is below 0", TextTest::cutTextBelow0);
         Check.sentence("Promise 4", "illegal argument: n is more than there are", TextTest::cutTextMoreThanThereAre);
-        Check.sentence("Promise 4", "what went is not read, and there is room anew", TextTest::cutTextMakesRoom);
+        Check.sentence("Promise 4", "what went is not read", TextTest::whatWentIsNotRead);
+        Check.sentence("Promise 4", "where characters went there is room", TextTest::cutTextMakesRoom);
         Check.end();
     }
 
@@ -284,9 +285,16 @@ final class TextTest {
         Check.due("all go", 0, () -> x.cutText(1992));
         Check.due("written anew", 9, () -> x.say(4, 0, 0, 0, 0));
         Check.due("read anew", -1 - 1, () -> x.read());
-        AlarmMatrix y = Sample.typed(9, "zone 199");
-        Check.due("a number out of its bounds", -1 - 1, () -> y.read());
-        y.cutText(1);
-        Check.due("a shorter number", -1 - 2, () -> y.read());
+    }
+
+    private static void whatWentIsNotRead() {
+        String text = "zone 19 needs 1 of 0 12;act 7 kind 5 rank 99 delay 600;when 19 does 7;hold 7;";
+        AlarmMatrix x = Sample.typed(20, text);
+        for (int size = text.length() - 1; size >= 0; size--) {
+            String left = text.substring(0, size);
+            int want = Sample.typed(20, left).read();
+            x.cutText(1);
+            Check.due("left is " + left, want, () -> x.read());
+        }
     }
 }
