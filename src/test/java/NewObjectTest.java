@@ -1,12 +1,4 @@
-import java.lang.reflect.Constructor;
-import java.lang.reflect.Field;
-import java.lang.reflect.Method;
-import java.lang.reflect.Modifier;
-import java.util.Arrays;
-import java.util.Set;
-import java.util.TreeSet;
-
-/** Promise 1, and the face that the document shows. */
+/** Promise 1. */
 final class NewObjectTest {
     public static void main(String[] args) {
         Check.sentence("Promise 1", "so many points", NewObjectTest::soManyPoints);
@@ -19,7 +11,6 @@ final class NewObjectTest {
         Check.sentence("Terms", "a point is alive at first, not disabled, its value 0", NewObjectTest::pointsAtFirst);
         Check.sentence("Terms", "TIME is 0 at first", NewObjectTest::timeAtFirst);
         Check.sentence("Terms", "no events at first", NewObjectTest::noEventsAtFirst);
-        Check.sentence("The public face", "all of it", NewObjectTest::faceIsTheDocuments);
         Check.end();
     }
 
@@ -127,32 +118,5 @@ final class NewObjectTest {
         AlarmMatrix x = new AlarmMatrix(3);
         Check.badArgument("the latest", () -> x.event(0, 0));
         Check.badArgument("the sixtieth", () -> x.event(59, 0));
-    }
-
-    private static void faceIsTheDocuments() {
-        Set<String> want = new TreeSet<>(Arrays.asList(
-            "int act(int, int)", "boolean cut(int, int, boolean)", "int cutText(int)", "int disable(int, int)",
-            "int event(int, int)", "boolean fault(int, boolean)", "int heard(int)", "int loop(int, int)",
-            "int person(int)", "int ranked(int)", "int read()", "int reset()", "int row(int, int)",
-            "int say(int, int, int, int, int)", "int signal(int, int)", "int ticks(int)", "int time()",
-            "int unit(int)", "int unreachable(int)", "int zone(int, int)"));
-        Set<String> got = new TreeSet<>();
-        for (Method m : AlarmMatrix.class.getDeclaredMethods()) {
-            if (!Modifier.isPrivate(m.getModifiers())) {
-                String parameters = Arrays.toString(m.getParameterTypes()).replace("[", "(").replace("]", ")");
-                got.add(m.getReturnType() + " " + m.getName() + parameters);
-            }
-        }
-        Check.same("methods", got.toString(), want.toString());
-        Set<String> fields = new TreeSet<>();
-        for (Field f : AlarmMatrix.class.getDeclaredFields()) {
-            if (!Modifier.isPrivate(f.getModifiers())) {
-                fields.add(f.toString());
-            }
-        }
-        Check.same("fields", fields.toString(), "[public static final int AlarmMatrix.NONE]");
-        Constructor<?>[] constructors = AlarmMatrix.class.getDeclaredConstructors();
-        Check.same("constructors", Arrays.toString(constructors), "[public AlarmMatrix(int)]");
-        Check.due("NONE", -1, () -> AlarmMatrix.NONE);
     }
 }
